@@ -1,0 +1,129 @@
+import java.nio.charset.StandardCharsets;
+
+/** What the tests share: comparing answers, feeding texts, reading lines and cards back. */
+final class Check {
+    /** A call whose exception is looked at. */
+    interface Call {
+        void make();
+    }
+
+    private static int wrong = 0;
+
+    private Check() {
+    }
+
+    static void same(String what, Object due, Object got) {
+        if (!due.equals(got)) {
+            wrong++;
+            System.out.println(what + ": answered " + got + ", due is " + due);
+        }
+    }
+
+    static void throwsIndex(String what, Call call) {
+        same(what, "IndexOutOfBoundsException", thrownBy(call));
+    }
+
+    static void throwsArgument(String what, Call call) {
+        same(what, "IllegalArgumentException", thrownBy(call));
+    }
+
+    static void throwsState(String what, Call call) {
+        same(what, "IllegalStateException", thrownBy(call));
+    }
+
+    static void ends(String name) {
+        System.out.println(name + ": " + (wrong == 0 ? "all answers are as due" : wrong + " answers are not as due"));
+        if (wrong != 0) {
+            System.exit(1);
+        }
+    }
+
+    private static String thrownBy(Call call) {
+        try {
+            call.make();
+            return "nothing";
+        } catch (RuntimeException e) {
+            return e.getClass().getSimpleName();
+        }
+    }
+
+    /** Feeds the text, with zero bytes behind it up to a multiple of twenty. */
+    static int feedText(Tabulator machine, String text) {
+        byte[] bytes = text.getBytes(StandardCharsets.ISO_8859_1);
+        int size = Tabulator.NONE;
+        for (int start = 0; start < bytes.length; start += 20) {
+            int[] words = new int[5];
+            for (int i = 0; i < 20; i++) {
+                int value = start + i < bytes.length ? bytes[start + i] & 255 : 0;
+                words[i / 4] = words[i / 4] << 8 | value;
+            }
+            size = machine.feed(words[0], words[1], words[2], words[3], words[4]);
+        }
+        return size;
+    }
+
+    static int load(Tabulator machine, String text) {
+        feedText(machine, text);
+        return machine.load(text.length());
+    }
+
+    /** A machine with this text, which has to be legal. */
+    static Tabulator machine(String text) {
+        Tabulator machine = new Tabulator();
+        load(machine, text);
+        same("errorKind of " + text, 0, machine.errorKind());
+        return machine;
+    }
+
+    /** A line without the blanks at its end. */
+    static String line(Tabulator machine, int line) {
+        StringBuilder signs = new StringBuilder();
+        for (int position = 1; position <= 40; position++) {
+            signs.append(machine.lineCharacter(line, position));
+        }
+        return signs.toString().stripTrailing();
+    }
+
+    /** A card of the deck, in the signs of a card token, without the empty columns at its end. */
+    static String card(Tabulator machine, int card) {
+        StringBuilder signs = new StringBuilder();
+        for (int column = 1; column <= 20; column++) {
+            signs.append(sign(machine.column(card, column)));
+        }
+        return withoutPoints(signs.toString());
+    }
+
+    static String deck(Tabulator machine) {
+        StringBuilder cards = new StringBuilder();
+        for (int card = 0; card < machine.cardCount(); card++) {
+            cards.append(card == 0 ? "" : " ").append(card(machine, card));
+        }
+        return cards.toString();
+    }
+
+    static String summary(Tabulator machine, int summary) {
+        StringBuilder signs = new StringBuilder();
+        for (int column = 1; column <= 20; column++) {
+            signs.append(sign(machine.summaryColumn(summary, column)));
+        }
+        return withoutPoints(signs.toString());
+    }
+
+    private static char sign(int code) {
+        if (code == -1) {
+            return '.';
+        }
+        if (code == 99) {
+            return 'x';
+        }
+        return (char) (code >= 100 ? 'a' + code - 100 : '0' + code);
+    }
+
+    private static String withoutPoints(String signs) {
+        int end = signs.length();
+        while (end > 0 && signs.charAt(end - 1) == '.') {
+            end--;
+        }
+        return signs.substring(0, end);
+    }
+}

@@ -1,0 +1,426 @@
+/** Promises 1 to 5: a new object, the buffer, and how a text is read. */
+public final class TextTest {
+    private static final String[] RESERVED = {
+        "field", "selector", "counter", "control", "list", "total", "roll", "clear", "punch", "card",
+        "delayed", "add", "sub", "signed", "if", "unless"};
+    private static final String NAMES = "field f 1 2; selector s 3 4; counter c 5 f add; ";
+
+    private TextTest() {
+    }
+
+    public static void main(String[] args) {
+        newObject();
+        feed();
+        feedOrderOfBytes();
+        load();
+        loadOutOfRange();
+        loadResetsAndKeeps();
+        legalTexts();
+        illegalTokens();
+        otherTokens();
+        numbersOutOfRange();
+        names();
+        limits();
+        textsThatEndEarly();
+        smallerKindFirst();
+        everyPrefix();
+        errorOfLatestLoad();
+        Check.ends("TextTest");
+    }
+
+    private static void newObject() {
+        Tabulator x = new Tabulator();
+        Check.same("1 cardCount", 0, x.cardCount());
+        Check.same("1 errorKind", 0, x.errorKind());
+        Check.same("1 errorPosition", -1, x.errorPosition());
+        Check.same("1 processed", 0, x.processed());
+        Check.same("1 lineCount", 0, x.lineCount());
+        Check.same("1 summaryCount", 0, x.summaryCount());
+        Check.same("1 linesOfRun", 0, x.linesOfRun());
+        for (int level = 1; level <= 3; level++) {
+            Check.same("1 groups", 0, x.groups(level));
+            Check.same("1 groupCount", 0, x.groupCount(level));
+            Check.same("1 plugControl", -1, x.plugControl(level, -1));
+        }
+        Check.throwsIndex("1 column", () -> x.column(0, 1));
+        Check.throwsIndex("1 mean", () -> x.mean(0));
+        Check.throwsIndex("1 counter", () -> x.counter(0));
+        Check.throwsIndex("1 isSelected", () -> x.isSelected(0));
+        Check.throwsArgument("1 load of an empty buffer", () -> x.load(1));
+        Check.same("1 load", 0, x.load(0));
+        Check.same("1 run", 0, x.run(1));
+        Check.same("1 finish", 0, x.finish());
+        for (int slot = 0; slot < 3; slot++) {
+            int saved = slot;
+            Check.throwsState("1 restore", () -> x.restore(saved));
+        }
+        Check.same("NONE", -1, Tabulator.NONE);
+        Check.same("FULL", -2, Tabulator.FULL);
+        Check.same("BAD_TEXT", -3, Tabulator.BAD_TEXT);
+    }
+
+    private static void feed() {
+        Tabulator x = new Tabulator();
+        for (int i = 1; i <= 55; i++) {
+            Check.same("2 feed", 20 * i, x.feed(0x20202020, 0x20202020, 0x20202020, 0x20202020, 0x20202020));
+        }
+        Check.same("2 feed beyond", -2, x.feed(0x3b3b3b3b, 0x3b3b3b3b, 0x3b3b3b3b, 0x3b3b3b3b, 0x3b3b3b3b));
+        Check.same("2 feed beyond again", -2, x.feed(0, 0, 0, 0, 0));
+        Check.throwsArgument("2 nothing was appended", () -> x.load(1101));
+        Check.same("2 load of a full buffer", 0, x.load(1100));
+        Check.same("2 feed into the emptied buffer", 20, x.feed(0, 0, 0, 0, 0));
+    }
+
+    private static void feedOrderOfBytes() {
+        Tabulator x = new Tabulator();
+        // "card 0123456789abx.;" and a byte above 127
+        x.feed(0x63617264, 0x20303132, 0x33343536, 0x37383961, 0x62782e3b);
+        x.feed(0xff000000, 0, 0, 0, 0);
+        Check.same("2 load", -3, x.load(21));
+        Check.same("2 errorKind", 1, x.errorKind());
+        Check.same("2 errorPosition", 20, x.errorPosition());
+        x.feed(0x63617264, 0x20303132, 0x33343536, 0x37383961, 0x62782e3b);
+        Check.same("2 load", 1, x.load(20));
+        Check.same("2 card", "0123456789abx", Check.card(x, 0));
+    }
+
+    private static void load() {
+        Tabulator x = Check.machine("field f 1 3; card 12; card 0bx.5;\n\ncard j...................;");
+        Check.same("3 cardCount", 3, x.cardCount());
+        Check.same("3 cards", "12 0bx.5 j", Check.deck(x));
+        Check.same("3 digit", 1, x.column(0, 1));
+        Check.same("3 column behind the token", -1, x.column(0, 3));
+        Check.same("3 digit with X", 101, x.column(1, 2));
+        Check.same("3 X alone", 99, x.column(1, 3));
+        Check.same("3 point", -1, x.column(1, 4));
+        Check.same("3 last column", -1, x.column(2, 20));
+        Check.same("3 the text is read up to its length alone", 20, Check.feedText(x, "card 1;card 2;card 3"));
+        Check.same("3 load", 2, x.load(14));
+        Check.throwsArgument("3 the buffer is empty then", () -> x.load(1));
+        Check.same("3 load of no bytes", 0, x.load(0));
+        Check.same("3 cardCount", 0, x.cardCount());
+        Check.throwsIndex("3 no fields", () -> x.mean(0));
+    }
+
+    private static void loadOutOfRange() {
+        Tabulator x = new Tabulator();
+        Check.feedText(x, "card 1;card 22;     ");
+        Check.throwsArgument("3 load", () -> x.load(-1));
+        Check.throwsArgument("3 load", () -> x.load(21));
+        Check.throwsArgument("3 load", () -> x.load(Integer.MIN_VALUE));
+        Check.throwsArgument("3 load", () -> x.load(Integer.MAX_VALUE));
+        Check.same("3 the buffer keeps its bytes", 2, x.load(20));
+        Check.same("3 deck", "1 22", Check.deck(x));
+    }
+
+    private static void loadResetsAndKeeps() {
+        Tabulator x = Check.machine("field f 1 1; counter c 3 f add; list f 1; control 1 f; punch 1 c 1; card 1; card 2;");
+        x.save(1);
+        x.finish();
+        Check.same("3 load of a bad text", -3, Check.load(x, "field g 1 1; card 5; card"));
+        Check.throwsArgument("3 the buffer is empty then", () -> x.load(1));
+        Check.same("3 the deck stays", "1 2", Check.deck(x));
+        Check.same("3 the machine stays", 2, x.processed());
+        Check.same("3 the lines stay", 2, x.lineCount());
+        Check.same("3 the counter stays", 3, x.counter(0));
+        Check.throwsState("3 the machine is finished", () -> x.run(1));
+        Check.same("3 load", 1, Check.load(x, "field g 1 1; field h 2 2; card 56;"));
+        Check.same("3 reset", 0, x.processed());
+        Check.same("3 reset", 0, x.lineCount());
+        Check.same("3 reset", 0, x.summaryCount());
+        Check.same("3 reset", 0, x.groups(1));
+        Check.throwsIndex("3 no counter", () -> x.counter(0));
+        Check.same("3 no control field", -1, x.plugControl(1, 0));
+        Check.same("3 run", 1, x.run(1));
+        Check.same("3 no list", 0, x.lineCount());
+        Check.same("3 a new plugboard", 6L, x.fieldValue(0, 1));
+        Check.same("3 saved machines stay", 2, x.restore(1));
+        Check.same("3 deck", "1 2", Check.deck(x));
+    }
+
+    private static void legalTexts() {
+        legal(0, "");
+        legal(0, " \n \n");
+        legal(1, "card1;");
+        legal(1, "\n card\n1a;\n");
+        legal(2, "card x;card.;");
+        legal(1, "card 01234567890123456789;");
+        legal(0, "field f1 20;".replace("20", "9"));
+        legal(0, "field abcdefgh 12 20;field i 20 20;");
+        legal(0, "field f 01 09;");
+        legal(0, "field cards 1 1;field fields 1 1;field x 1 1;field a 1 1;");
+        legal(0, "field f 1 1;selector s 20 0;selector t 1 10 delayed;");
+        legal(0, "field f 1 1;selector s 1 1;counter c 9 f add;counter d 1 f sub if s;counter e 5 f signed unless s;");
+        legal(0, NAMES + "control 3 f;control 1 f;control 2 f;list f 40;list f 1;");
+        legal(0, NAMES + "total 1 c 40;total 3 c 1;roll 2 c c;clear 1 c;punch 1 f 20;punch 2 c 1;");
+        legal(0, "field f 1 1;selector s 1 1;counter c 1 f add\nunless\ns\n;");
+    }
+
+    private static void illegalTokens() {
+        bad(1, "^?");
+        bad(1, "^Field f 1 1;");
+        bad(1, "field f^\t1 1;");
+        bad(1, "^\u00e9");
+        bad(1, "^\0");
+        bad(1, "^abcdefghi f 1 1;");
+        bad(1, "^fieldfield f 1 1;");
+        bad(1, "field ^abcdefghi 1 1;");
+        bad(1, "field f ^001 1;");
+        bad(1, "field f 1 ^100;");
+        bad(1, "field f 1 1^.;");
+        bad(1, "field f 1 ^-1;");
+        bad(1, "card ^;");
+        bad(1, "card ^k;");
+        bad(1, "card ^?;");
+        bad(1, "card ^012345678901234567890;");
+        bad(1, "card ^....................x;");
+        bad(1, "card 1^?");
+        bad(1, "card 1 ^?");
+        bad(1, NAMES + "list ^longerthan 1;");
+        bad(1, NAMES + "counter d 3 f ^;".replace(";", ":"));
+        bad(1, NAMES + "counter d 3 f add ^:");
+        bad(1, NAMES + "selector t 3 3 ^:");
+        bad(1, NAMES + "control ^123 f;");
+        bad(1, "card 1k".replace("k", "^klmnopqrst;"));
+    }
+
+    private static void otherTokens() {
+        bad(2, "^;");
+        bad(2, "^1");
+        bad(2, "^cards 1;");
+        bad(2, "^carda;");
+        bad(2, "^x;");
+        bad(2, "card 1;^;");
+        bad(2, "field ^1 1 1;");
+        bad(2, "field ^; ");
+        bad(2, "field f ^a;");
+        bad(2, "field f 1 ^;");
+        bad(2, "field f 1 1 ^1;");
+        bad(2, "field f 1 1 ^card 1;");
+        bad(2, "card 1 ^1;");
+        bad(2, "card 12^z;");
+        bad(2, "card ab^k;");
+        bad(2, "card 1 ^a;");
+        bad(2, "selector s 1 1 ^if;");
+        bad(2, "selector s 1 1 ^late;");
+        bad(2, "selector s 1 1 ^1;");
+        bad(2, "selector s 1 1 delayed ^delayed;");
+        bad(2, "selector s 1 ^delayed;");
+        bad(2, NAMES + "counter d 1 f ^;");
+        bad(2, NAMES + "counter d 1 f ^if s;");
+        bad(2, NAMES + "counter d 1 f ^s;");
+        bad(2, NAMES + "counter d 1 f ^1;");
+        bad(2, NAMES + "counter d 1 f add ^add;");
+        bad(2, NAMES + "counter d 1 f add ^s;");
+        bad(2, NAMES + "counter d 1 f add ^1;");
+        bad(2, NAMES + "counter d 1 f add if ^;");
+        bad(2, NAMES + "counter d 1 f add if s ^unless s;");
+        bad(2, NAMES + "counter d ^f 1 add;");
+        bad(2, NAMES + "control ^f 1;");
+        bad(2, NAMES + "control 1 ^1;");
+        bad(2, NAMES + "control 1 f ^1;");
+        bad(2, NAMES + "list ^1 f;");
+        bad(2, NAMES + "list f ^;");
+        bad(2, NAMES + "list f 1 ^f;");
+        bad(2, NAMES + "total 1 ^1 c;");
+        bad(2, NAMES + "total 1 c ^;");
+        bad(2, NAMES + "roll 1 c ^;");
+        bad(2, NAMES + "roll 1 c c ^c;");
+        bad(2, NAMES + "clear 1 ^;");
+        bad(2, NAMES + "clear 1 c ^1;");
+        bad(2, NAMES + "punch 1 c ^;");
+        bad(2, NAMES + "punch 1 ^1 1;");
+        bad(2, NAMES + "punch 1 c 1 ^1;");
+        for (String word : RESERVED) {
+            bad(2, "field ^" + word + " 1 1;");
+            bad(2, "selector ^" + word + " 1 1;");
+            bad(2, "field f 1 1; counter ^" + word + " 1 f add;");
+            bad(2, NAMES + "list ^" + word + " 1;");
+            bad(2, NAMES + "counter d 1 ^" + word + " add;");
+            bad(2, NAMES + "counter d 1 f add if ^" + word + ";");
+            bad(2, NAMES + "punch 1 ^" + word + " 1;");
+        }
+        for (String word : new String[] {"delayed", "add", "sub", "signed", "if", "unless"}) {
+            bad(2, "^" + word + " f 1 1;");
+        }
+    }
+
+    private static void numbersOutOfRange() {
+        bad(3, "field f ^0 1;");
+        bad(3, "field f ^21 21;");
+        bad(3, "field f ^99 1;");
+        bad(3, "field f 2 ^1;");
+        bad(3, "field f 20 ^21;");
+        bad(3, "field f 13 ^21;");
+        bad(3, "field f 1 ^10;");
+        bad(3, "field f 11 ^20;");
+        bad(3, "selector s ^0 1;");
+        bad(3, "selector s ^21 1;");
+        bad(3, "selector s 1 ^11;");
+        bad(3, NAMES + "counter d ^0 f add;");
+        bad(3, NAMES + "counter d ^10 f add;");
+        for (String kind : new String[] {"control", "total", "roll", "clear", "punch"}) {
+            bad(3, NAMES + kind + " ^0 c 1;");
+            bad(3, NAMES + kind + " ^4 c 1;");
+        }
+        bad(3, NAMES + "list f ^0;");
+        bad(3, NAMES + "list f ^41;");
+        bad(3, NAMES + "total 1 c ^0;");
+        bad(3, NAMES + "total 1 c ^41;");
+        bad(3, NAMES + "punch 1 c ^0;");
+        bad(3, NAMES + "punch 1 f ^21;");
+    }
+
+    private static void names() {
+        for (String name : new String[] {"f", "s", "c"}) {
+            bad(4, NAMES + "field ^" + name + " 1 1;");
+            bad(4, NAMES + "selector ^" + name + " 1 1;");
+            bad(4, NAMES + "counter ^" + name + " 1 f add;");
+        }
+        for (String name : new String[] {"s", "c", "g", "ff", "fields"}) {
+            bad(4, NAMES + "control 1 ^" + name + ";");
+            bad(4, NAMES + "list ^" + name + " 1;");
+            bad(4, NAMES + "counter d 1 ^" + name + " add;");
+        }
+        for (String name : new String[] {"f", "c", "d", "g"}) {
+            bad(4, NAMES + "counter d 1 f add if ^" + name + ";");
+            bad(4, NAMES + "counter d 1 f add unless ^" + name + ";");
+        }
+        for (String name : new String[] {"f", "s", "g"}) {
+            bad(4, NAMES + "total 1 ^" + name + " 1;");
+            bad(4, NAMES + "roll 1 ^" + name + " c;");
+            bad(4, NAMES + "roll 1 c ^" + name + ";");
+            bad(4, NAMES + "clear 1 ^" + name + ";");
+        }
+        bad(4, NAMES + "punch 1 ^s 1;");
+        bad(4, NAMES + "punch 1 ^g 1;");
+        bad(4, "counter c 1 ^c add;");
+        bad(4, "list ^f 1; field f 1 1;");
+    }
+
+    private static void limits() {
+        String fields = repeated("field # 1 1;", 8);
+        legal(0, fields);
+        bad(5, fields + "^field i 1 1;");
+        bad(5, fields + " ^field 99");
+        String selectors = repeated("selector # 1 1;", 6);
+        legal(0, selectors);
+        bad(5, selectors + "^selector i 1 1;");
+        String counters = "field f 1 1;" + repeated("counter y# 1 f add;", 6);
+        legal(0, counters);
+        bad(5, counters + "^counter i 1 f add;");
+        legal(0, NAMES + repeated("list f 1;", 12));
+        bad(5, NAMES + repeated("list f 1;", 12) + "^list f 1;");
+        legal(0, NAMES + repeated("total 1 c 1;", 12));
+        bad(5, NAMES + repeated("total 1 c 1;", 12) + "^total 1 c 1;");
+        legal(0, NAMES + repeated("roll 1 c c;", 8));
+        bad(5, NAMES + repeated("roll 1 c c;", 8) + "^roll 1 c c;");
+        legal(0, NAMES + repeated("clear 1 c;", 8));
+        bad(5, NAMES + repeated("clear 1 c;", 8) + "^clear 1 c;");
+        legal(0, NAMES + repeated("punch 1 c 1;", 8));
+        bad(5, NAMES + repeated("punch 1 c 1;", 8) + "^punch 1 c 1;");
+        legal(40, repeated("card 1;", 40));
+        bad(5, repeated("card 1;", 40) + "^card 1;");
+        bad(5, repeated("card 1;", 40) + "^card");
+        for (int level = 1; level <= 3; level++) {
+            bad(5, NAMES + "control " + level + " f; control ^" + level + " f;");
+            bad(5, NAMES + "control " + level + " f; control ^" + level);
+        }
+        String all = repeated("field # 1 1;", 8) + repeated("selector s# 1 1;", 6) + repeated("counter c# 1 a add;", 6);
+        legal(0, all + "list h 1; total 1 cf 1; counter".replace(" counter", ""));
+    }
+
+    private static void textsThatEndEarly() {
+        bad(2, "field^");
+        bad(2, "field \n ^");
+        bad(2, "field f^");
+        bad(2, "field f 1 ^");
+        bad(2, "field f 1 1 ^");
+        bad(2, "card^");
+        bad(2, "card ^");
+        bad(2, "card \n^");
+        bad(2, "card 1^");
+        bad(2, "card 01234567890123456789 ^");
+        bad(2, "selector s 1 1 ^");
+        bad(2, "selector s 1 1 delayed^");
+        bad(2, NAMES + "counter d 1 f ^");
+        bad(2, NAMES + "counter d 1 f add ^");
+        bad(2, NAMES + "counter d 1 f add if^");
+        bad(2, NAMES + "counter d 1 f add if s^");
+    }
+
+    private static void smallerKindFirst() {
+        bad(1, repeated("field # 1 1;", 8) + "^fieldfield i 1 1;");
+        bad(2, NAMES + "control 1 f; control ^f f;");
+        bad(3, NAMES + "control 1 f; control ^4 f;");
+        bad(2, NAMES + "list ^if 1;");
+        bad(4, repeated("field # 1 1;", 8) + "selector ^a 1 1;");
+        bad(4, NAMES + "list ^g 1; ?");
+        bad(3, "field f ^0 0;");
+    }
+
+    /** Each part of a legal text, cut at each byte, is legal only where a statement ends. */
+    private static void everyPrefix() {
+        String text = "field f 1 2;selector s 3 4 delayed;counter c 5 f add unless s;control 1 f;list f 1;card 1;";
+        Tabulator x = null;
+        for (int length = 0; length <= text.length(); length++) {
+            // An object is used for some hundred calls at most.
+            if (length % 30 == 0) {
+                x = new Tabulator();
+            }
+            String part = text.substring(0, length);
+            boolean legal = length == 0 || part.endsWith(";");
+            Check.same("3 load of " + part, legal ? (length == text.length() ? 1 : 0) : -3, Check.load(x, part));
+        }
+    }
+
+    private static void errorOfLatestLoad() {
+        Tabulator x = new Tabulator();
+        Check.load(x, "card 1; card ?;");
+        Check.same("4 errorKind", 1, x.errorKind());
+        Check.same("5 errorPosition", 13, x.errorPosition());
+        Check.throwsArgument("4 load that throws", () -> x.load(1));
+        Check.same("4 errorKind stays", 1, x.errorKind());
+        Check.same("5 errorPosition stays", 13, x.errorPosition());
+        x.save(0);
+        x.reset();
+        Check.load(x, "card 1;");
+        Check.same("4 errorKind", 0, x.errorKind());
+        Check.same("5 errorPosition", -1, x.errorPosition());
+        Check.load(x, "field a 0 0;");
+        Check.same("4 errorKind", 3, x.errorKind());
+        Check.same("5 errorPosition", 8, x.errorPosition());
+        x.restore(0);
+        x.reset();
+        Check.same("4 errorKind after restore", 3, x.errorKind());
+        Check.same("5 errorPosition after restore", 8, x.errorPosition());
+        Check.load(x, ";");
+        Check.same("5 errorPosition at the first byte", 0, x.errorPosition());
+    }
+
+    private static void legal(int cards, String text) {
+        Tabulator x = new Tabulator();
+        Check.same("3 load of " + text, cards, Check.load(x, text));
+        Check.same("4 errorKind of " + text, 0, x.errorKind());
+        Check.same("5 errorPosition of " + text, -1, x.errorPosition());
+    }
+
+    /** A text with a sign ^ before the token at which the error is. */
+    private static void bad(int kind, String marked) {
+        int position = marked.indexOf('^');
+        String text = marked.substring(0, position) + marked.substring(position + 1);
+        Tabulator x = new Tabulator();
+        Check.same("3 load of " + marked, -3, Check.load(x, text));
+        Check.same("4 errorKind of " + marked, kind, x.errorKind());
+        Check.same("5 errorPosition of " + marked, position, x.errorPosition());
+    }
+
+    /** The statement so many times, with a letter more in the alphabet for each sign #. */
+    private static String repeated(String statement, int times) {
+        StringBuilder text = new StringBuilder();
+        for (int i = 0; i < times; i++) {
+            text.append(statement.replace('#', (char) ('a' + i)));
+        }
+        return text.toString();
+    }
+}
