@@ -84,6 +84,17 @@ final class Check {
         return signs.toString().stripTrailing();
     }
 
+    /** A line, told by the signs that stand from a position on, without the blanks at its end. */
+    static String row(Object... positionsAndSigns) {
+        StringBuilder signs = new StringBuilder(" ".repeat(40));
+        for (int i = 0; i < positionsAndSigns.length; i += 2) {
+            int start = (Integer) positionsAndSigns[i] - 1;
+            String part = (String) positionsAndSigns[i + 1];
+            signs.replace(start, start + part.length(), part);
+        }
+        return signs.toString().stripTrailing();
+    }
+
     /** A card of the deck, in the signs of a card token, without the empty columns at its end. */
     static String card(Tabulator machine, int card) {
         StringBuilder signs = new StringBuilder();

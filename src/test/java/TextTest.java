@@ -145,7 +145,7 @@ public final class TextTest {
         legal(1, "\n card\n1a;\n");
         legal(2, "card x;card.;");
         legal(1, "card 01234567890123456789;");
-        legal(0, "field f1 20;".replace("20", "9"));
+        legal(0, "field f1 9;");
         legal(0, "field abcdefgh 12 20;field i 20 20;");
         legal(0, "field f 01 09;");
         legal(0, "field cards 1 1;field fields 1 1;field x 1 1;field a 1 1;");
@@ -177,11 +177,11 @@ public final class TextTest {
         bad(1, "card 1^?");
         bad(1, "card 1 ^?");
         bad(1, NAMES + "list ^longerthan 1;");
-        bad(1, NAMES + "counter d 3 f ^;".replace(";", ":"));
+        bad(1, NAMES + "counter d 3 f ^:");
         bad(1, NAMES + "counter d 3 f add ^:");
         bad(1, NAMES + "selector t 3 3 ^:");
         bad(1, NAMES + "control ^123 f;");
-        bad(1, "card 1k".replace("k", "^klmnopqrst;"));
+        bad(1, "card 1^klmnopqrst;");
     }
 
     private static void otherTokens() {
@@ -327,7 +327,7 @@ public final class TextTest {
             bad(5, NAMES + "control " + level + " f; control ^" + level);
         }
         String all = repeated("field # 1 1;", 8) + repeated("selector s# 1 1;", 6) + repeated("counter c# 1 a add;", 6);
-        legal(0, all + "list h 1; total 1 cf 1; counter".replace(" counter", ""));
+        legal(0, all + "list h 1; total 1 cf 1;");
     }
 
     private static void textsThatEndEarly() {
