@@ -37,6 +37,9 @@ public final class ChangesTest {
         Tabulator y = Check.machine("field v 1 1; card 32; card 21; card 22; card 3; card 1;");
         Check.same("18 cards between keep their numbers", 3, y.sort(0));
         Check.same("18 deck", "1 21 22 32 3", Check.deck(y));
+        Tabulator whole = Check.machine("field v 1 1; card 20123456789012345678; card 1.xabcdefghijxxxxxxx;");
+        Check.same("18 whole cards", 2, whole.sort(0));
+        Check.same("18 whole cards", "1.xabcdefghijxxxxxxx 20123456789012345678", Check.deck(whole));
         Tabulator equal = Check.machine("field v 1 1; card 1; card 1; card 0;");
         Check.same("18 equal cards count too", 3, equal.sort(0));
         Check.same("18 sort of an empty deck", 0, Check.machine("field v 1 1;").sort(0));
@@ -64,6 +67,11 @@ public final class ChangesTest {
         Check.same("19 removeCard", 3, x.removeCard(1));
         Check.same("19 deck", "301 1.2b 2.31", Check.deck(x));
         isReset("19", x);
+        Tabulator whole = Check.machine("card 1; card 20123456789012345678; card 3..................x;");
+        whole.removeCard(0);
+        Check.same("19 whole cards", "20123456789012345678 3..................x", Check.deck(whole));
+        whole.copyCard(0);
+        Check.same("20 whole cards", "20123456789012345678 20123456789012345678 3..................x", Check.deck(whole));
         Check.same("19 removeCard", 2, x.removeCard(2));
         Check.same("19 removeCard", 1, x.removeCard(0));
         Check.same("19 deck", "1.2b", Check.deck(x));

@@ -11,6 +11,7 @@ public final class SavedTest {
         slots();
         everythingIsSaved();
         theSlotKeepsIt();
+        otherLinesComeBetween();
         finishedMachine();
         bufferAndErrorAreNotSaved();
         Check.ends("SavedTest");
@@ -113,6 +114,33 @@ public final class SavedTest {
         Check.same("44 selectors are saved", true, x.isSelected(0));
         x.restore(0);
         Check.same("44 slots are apart", 3, x.processed());
+    }
+
+    /** Lines and summary cards of another run stand in the same places for a while. */
+    private static void otherLinesComeBetween() {
+        Tabulator x = Check.machine("field f 1 2; counter c 2 f signed; list f 1; total 2 c 1; punch 2 f 1; control 2 f; card 12; card 3d;");
+        x.finish();
+        x.save(0);
+        Check.load(x, "field f 1 2; counter c 3 f add; total 1 c 5; total 3 c 9; punch 1 c 5; control 1 f; card 99; card 88; card 77;");
+        x.finish();
+        x.save(1);
+        x.restore(0);
+        int[] levels = {0, 2, 0, 2};
+        String[] lines = {"12", Check.row(1, "12", 39, "**"), "33", Check.row(1, "21-", 39, "**")};
+        Check.same("44 lineCount", 4, x.lineCount());
+        for (int line = 0; line < 4; line++) {
+            Check.same("44 level of line " + line, levels[line], x.lineLevel(line));
+            Check.same("44 line " + line, lines[line], Check.line(x, line));
+        }
+        Check.same("44 summaryCount", 2, x.summaryCount());
+        Check.same("44 summary card", "12", Check.summary(x, 0));
+        Check.same("44 summary card", "3d", Check.summary(x, 1));
+        x.restore(1);
+        Check.same("44 levels", 3, x.lineLevel(3));
+        Check.same("44 levels", 1, x.lineLevel(1));
+        Check.same("44 line", Check.row(5, " 99", 40, "*"), Check.line(x, 0));
+        Check.same("44 summaryCount", 3, x.summaryCount());
+        Check.same("44 summary card", "....264", Check.summary(x, 2));
     }
 
     private static void finishedMachine() {

@@ -15,6 +15,8 @@ public final class TextTest {
         load();
         loadOutOfRange();
         loadResetsAndKeeps();
+        nothingIsLeftOfTheTextBefore();
+        bytesBehindTheLength();
         legalTexts();
         illegalTokens();
         otherTokens();
@@ -136,6 +138,40 @@ public final class TextTest {
         Check.same("3 a new plugboard", 6L, x.fieldValue(0, 1));
         Check.same("3 saved machines stay", 2, x.restore(1));
         Check.same("3 deck", "1 2", Check.deck(x));
+    }
+
+    private static void nothingIsLeftOfTheTextBefore() {
+        Tabulator x = Check.machine(NAMES + "control 2 f;list f 1;total 1 c 1;total 3 c 1;roll 1 c c;clear 1 c;punch 1 c 1;card 12;card 34;");
+        Check.same("3 finish", 2 + 3, x.finish());
+        Check.same("3 load", 2, Check.load(x, "selector c 1 1;field s 1 2;counter f 5 s add;card 12;card 34;"));
+        Check.same("3 no list, no total", 0, x.finish());
+        Check.same("3 no punch", 0, x.summaryCount());
+        Check.same("3 no control", 1, x.groups(2));
+        Check.same("3 no roll, no clear", 46, x.counter(0));
+        Check.same("3 load", -3, Check.load(x, NAMES + "control 1 f;list f 1;total 1 c 1;punch 1 c 1;card 1;card 2"));
+        Check.same("3 load", 1, Check.load(x, NAMES + "card 12;"));
+        Check.same("3 nothing is left of a bad text", 0, x.finish());
+        Check.same("3 nothing is left of a bad text", 12, x.counter(0));
+    }
+
+    /** What stands in the buffer behind the text makes no token longer. */
+    private static void bytesBehindTheLength() {
+        String[] texts = {"card 1", "card 12;fiel", "field f 1", "field f 1 1", "field f", "card"};
+        String[] behind = {"2;", "d", "2", "2;", "g", "x"};
+        int[] kinds = {2, 2, 2, 2, 2, 2};
+        int[] positions = {6, 8, 9, 11, 7, 4};
+        for (int i = 0; i < texts.length; i++) {
+            Tabulator x = new Tabulator();
+            Check.feedText(x, texts[i] + behind[i] + "                    ");
+            Check.same("3 load of " + texts[i], -3, x.load(texts[i].length()));
+            Check.same("4 errorKind of " + texts[i], kinds[i], x.errorKind());
+            Check.same("5 errorPosition of " + texts[i], positions[i], x.errorPosition());
+        }
+        Tabulator y = new Tabulator();
+        Check.feedText(y, "field f 1 1 123456789");
+        y.load(13);
+        Check.same("4 errorKind", 2, y.errorKind());
+        Check.same("5 errorPosition", 12, y.errorPosition());
     }
 
     private static void legalTexts() {
