@@ -13,6 +13,7 @@ public final class ChangesTest {
         sortOfManyCards();
         removeCard();
         copyCard();
+        copyCardOfAFullDeck();
         setColumn();
         plugCounter();
         plugSelector();
@@ -91,11 +92,19 @@ public final class ChangesTest {
         isReset("20", x);
         Check.same("20 copyCard", 6, x.copyCard(5 - 1));
         Check.same("20 deck", "301 20bx 20bx 1.2b 2.31 2.31", Check.deck(x));
-        Check.same("20 copyCard", 7, x.copyCard(0));
-        Check.same("20 deck", "301 301 20bx 20bx 1.2b 2.31 2.31", Check.deck(x));
-        x.setColumn(1, 1, 9);
-        Check.same("20 the copy is another card", "301", Check.card(x, 0));
-        for (int cards = 8; cards <= 40; cards++) {
+        Tabulator first = Check.machine(TEXT);
+        Check.same("20 copyCard", 5, first.copyCard(0));
+        Check.same("20 deck", "301 301 20bx 1.2b 2.31", Check.deck(first));
+        first.setColumn(1, 1, 9);
+        Check.same("20 the copy is another card", "301", Check.card(first, 0));
+        Tabulator failed = started();
+        Check.throwsIndex("20 card", () -> failed.copyCard(4));
+        isUntouched("20", failed);
+    }
+
+    private static void copyCardOfAFullDeck() {
+        Tabulator x = started();
+        for (int cards = 5; cards <= 40; cards++) {
             Check.same("20 copyCard", cards, x.copyCard(cards - 2));
         }
         Check.throwsState("20 full deck", () -> x.copyCard(0));
@@ -105,9 +114,6 @@ public final class ChangesTest {
         x.run(3);
         Check.throwsState("20 full deck", () -> x.copyCard(39));
         Check.same("20 no reset", 3, x.processed());
-        Tabulator failed = started();
-        Check.throwsIndex("20 card", () -> failed.copyCard(4));
-        isUntouched("20", failed);
     }
 
     private static void setColumn() {

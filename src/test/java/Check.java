@@ -75,6 +75,37 @@ final class Check {
         return machine;
     }
 
+    /** A legal text; what it holds is looked at by the caller. */
+    static Tabulator legal(int cards, String text) {
+        Tabulator x = new Tabulator();
+        same("3 load of " + text, cards, load(x, text));
+        same("4 errorKind of " + text, 0, x.errorKind());
+        same("5 errorPosition of " + text, -1, x.errorPosition());
+        return x;
+    }
+
+    static void bad(int kind, int position, String text) {
+        Tabulator x = new Tabulator();
+        same("3 load of " + text, -3, load(x, text));
+        same("4 errorKind of " + text, kind, x.errorKind());
+        same("5 errorPosition of " + text, position, x.errorPosition());
+    }
+
+    /** A text with a sign ^ before the token at which the error is. */
+    static void bad(int kind, String marked) {
+        int position = marked.indexOf('^');
+        bad(kind, position, marked.substring(0, position) + marked.substring(position + 1));
+    }
+
+    /** The statement so many times, with a letter more in the alphabet for each sign #. */
+    static String repeated(String statement, int times) {
+        StringBuilder text = new StringBuilder();
+        for (int i = 0; i < times; i++) {
+            text.append(statement.replace('#', (char) ('a' + i)));
+        }
+        return text.toString();
+    }
+
     /** A line without the blanks at its end. */
     static String line(Tabulator machine, int line) {
         StringBuilder signs = new StringBuilder();

@@ -175,224 +175,224 @@ public final class TextTest {
     }
 
     private static void legalTexts() {
-        legal(0, "");
-        legal(0, " \n \n");
-        legal(1, "card1;");
-        legal(1, "\n card\n1a;\n");
-        legal(2, "card x;card.;");
-        legal(1, "card 01234567890123456789;");
-        legal(0, "field f1 9;");
-        legal(0, "field abcdefgh 12 20;field i 20 20;");
-        legal(0, "field f 01 09;");
-        legal(0, "field cards 1 1;field fields 1 1;field x 1 1;field a 1 1;");
-        legal(0, "field f 1 1;selector s 20 0;selector t 1 10 delayed;");
-        legal(0, "field f 1 1;selector s 1 1;counter c 9 f add;counter d 1 f sub if s;counter e 5 f signed unless s;");
-        legal(0, NAMES + "control 3 f;control 1 f;control 2 f;list f 40;list f 1;");
-        legal(0, NAMES + "total 1 c 40;total 3 c 1;roll 2 c c;clear 1 c;punch 1 f 20;punch 2 c 1;");
-        legal(0, "field f 1 1;selector s 1 1;counter c 1 f add\nunless\ns\n;");
+        Check.legal(0, "");
+        Check.legal(0, " \n \n");
+        Check.legal(1, "card1;");
+        Check.legal(1, "\n card\n1a;\n");
+        Check.legal(2, "card x;card.;");
+        Check.legal(1, "card 01234567890123456789;");
+        Check.legal(0, "field f1 9;");
+        Check.legal(0, "field abcdefgh 12 20;field i 20 20;");
+        Check.legal(0, "field f 01 09;");
+        Check.legal(0, "field cards 1 1;field fields 1 1;field x 1 1;field a 1 1;");
+        Check.legal(0, "field f 1 1;selector s 20 0;selector t 1 10 delayed;");
+        Check.legal(0, "field f 1 1;selector s 1 1;counter c 9 f add;counter d 1 f sub if s;counter e 5 f signed unless s;");
+        Check.legal(0, NAMES + "control 3 f;control 1 f;control 2 f;list f 40;list f 1;");
+        Check.legal(0, NAMES + "total 1 c 40;total 3 c 1;roll 2 c c;clear 1 c;punch 1 f 20;punch 2 c 1;");
+        Check.legal(0, "field f 1 1;selector s 1 1;counter c 1 f add\nunless\ns\n;");
     }
 
     private static void illegalTokens() {
-        bad(1, "^?");
-        bad(1, "^Field f 1 1;");
-        bad(1, "field f^\t1 1;");
-        bad(1, "^\u00e9");
-        bad(1, "^\0");
-        bad(1, "^abcdefghi f 1 1;");
-        bad(1, "^fieldfield f 1 1;");
-        bad(1, "field ^abcdefghi 1 1;");
-        bad(1, "field f ^001 1;");
-        bad(1, "field f 1 ^100;");
-        bad(1, "field f 1 1^.;");
-        bad(1, "field f 1 ^-1;");
-        bad(1, "card ^;");
-        bad(1, "card ^k;");
-        bad(1, "card ^?;");
-        bad(1, "card ^012345678901234567890;");
-        bad(1, "card ^....................x;");
-        bad(1, "card 1^?");
-        bad(1, "card 1 ^?");
-        bad(1, NAMES + "list ^longerthan 1;");
-        bad(1, NAMES + "counter d 3 f ^:");
-        bad(1, NAMES + "counter d 3 f add ^:");
-        bad(1, NAMES + "selector t 3 3 ^:");
-        bad(1, NAMES + "control ^123 f;");
-        bad(1, "card 1^klmnopqrst;");
+        Check.bad(1, "^?");
+        Check.bad(1, "^Field f 1 1;");
+        Check.bad(1, "field f^\t1 1;");
+        Check.bad(1, "^\u00e9");
+        Check.bad(1, "^\0");
+        Check.bad(1, "^abcdefghi f 1 1;");
+        Check.bad(1, "^fieldfield f 1 1;");
+        Check.bad(1, "field ^abcdefghi 1 1;");
+        Check.bad(1, "field f ^001 1;");
+        Check.bad(1, "field f 1 ^100;");
+        Check.bad(1, "field f 1 1^.;");
+        Check.bad(1, "field f 1 ^-1;");
+        Check.bad(1, "card ^;");
+        Check.bad(1, "card ^k;");
+        Check.bad(1, "card ^?;");
+        Check.bad(1, "card ^012345678901234567890;");
+        Check.bad(1, "card ^....................x;");
+        Check.bad(1, "card 1^?");
+        Check.bad(1, "card 1 ^?");
+        Check.bad(1, NAMES + "list ^longerthan 1;");
+        Check.bad(1, NAMES + "counter d 3 f ^:");
+        Check.bad(1, NAMES + "counter d 3 f add ^:");
+        Check.bad(1, NAMES + "selector t 3 3 ^:");
+        Check.bad(1, NAMES + "control ^123 f;");
+        Check.bad(1, "card 1^klmnopqrst;");
     }
 
     private static void otherTokens() {
-        bad(2, "^;");
-        bad(2, "^1");
-        bad(2, "^cards 1;");
-        bad(2, "^carda;");
-        bad(2, "^x;");
-        bad(2, "card 1;^;");
-        bad(2, "field ^1 1 1;");
-        bad(2, "field ^; ");
-        bad(2, "field f ^a;");
-        bad(2, "field f 1 ^;");
-        bad(2, "field f 1 1 ^1;");
-        bad(2, "field f 1 1 ^card 1;");
-        bad(2, "card 1 ^1;");
-        bad(2, "card 12^z;");
-        bad(2, "card ab^k;");
-        bad(2, "card 1 ^a;");
-        bad(2, "selector s 1 1 ^if;");
-        bad(2, "selector s 1 1 ^late;");
-        bad(2, "selector s 1 1 ^1;");
-        bad(2, "selector s 1 1 delayed ^delayed;");
-        bad(2, "selector s 1 ^delayed;");
-        bad(2, NAMES + "counter d 1 f ^;");
-        bad(2, NAMES + "counter d 1 f ^if s;");
-        bad(2, NAMES + "counter d 1 f ^s;");
-        bad(2, NAMES + "counter d 1 f ^1;");
-        bad(2, NAMES + "counter d 1 f add ^add;");
-        bad(2, NAMES + "counter d 1 f add ^s;");
-        bad(2, NAMES + "counter d 1 f add ^1;");
-        bad(2, NAMES + "counter d 1 f add if ^;");
-        bad(2, NAMES + "counter d 1 f add if s ^unless s;");
-        bad(2, NAMES + "counter d ^f 1 add;");
-        bad(2, NAMES + "control ^f 1;");
-        bad(2, NAMES + "control 1 ^1;");
-        bad(2, NAMES + "control 1 f ^1;");
-        bad(2, NAMES + "list ^1 f;");
-        bad(2, NAMES + "list f ^;");
-        bad(2, NAMES + "list f 1 ^f;");
-        bad(2, NAMES + "total 1 ^1 c;");
-        bad(2, NAMES + "total 1 c ^;");
-        bad(2, NAMES + "roll 1 c ^;");
-        bad(2, NAMES + "roll 1 c c ^c;");
-        bad(2, NAMES + "clear 1 ^;");
-        bad(2, NAMES + "clear 1 c ^1;");
-        bad(2, NAMES + "punch 1 c ^;");
-        bad(2, NAMES + "punch 1 ^1 1;");
-        bad(2, NAMES + "punch 1 c 1 ^1;");
+        Check.bad(2, "^;");
+        Check.bad(2, "^1");
+        Check.bad(2, "^cards 1;");
+        Check.bad(2, "^carda;");
+        Check.bad(2, "^x;");
+        Check.bad(2, "card 1;^;");
+        Check.bad(2, "field ^1 1 1;");
+        Check.bad(2, "field ^; ");
+        Check.bad(2, "field f ^a;");
+        Check.bad(2, "field f 1 ^;");
+        Check.bad(2, "field f 1 1 ^1;");
+        Check.bad(2, "field f 1 1 ^card 1;");
+        Check.bad(2, "card 1 ^1;");
+        Check.bad(2, "card 12^z;");
+        Check.bad(2, "card ab^k;");
+        Check.bad(2, "card 1 ^a;");
+        Check.bad(2, "selector s 1 1 ^if;");
+        Check.bad(2, "selector s 1 1 ^late;");
+        Check.bad(2, "selector s 1 1 ^1;");
+        Check.bad(2, "selector s 1 1 delayed ^delayed;");
+        Check.bad(2, "selector s 1 ^delayed;");
+        Check.bad(2, NAMES + "counter d 1 f ^;");
+        Check.bad(2, NAMES + "counter d 1 f ^if s;");
+        Check.bad(2, NAMES + "counter d 1 f ^s;");
+        Check.bad(2, NAMES + "counter d 1 f ^1;");
+        Check.bad(2, NAMES + "counter d 1 f add ^add;");
+        Check.bad(2, NAMES + "counter d 1 f add ^s;");
+        Check.bad(2, NAMES + "counter d 1 f add ^1;");
+        Check.bad(2, NAMES + "counter d 1 f add if ^;");
+        Check.bad(2, NAMES + "counter d 1 f add if s ^unless s;");
+        Check.bad(2, NAMES + "counter d ^f 1 add;");
+        Check.bad(2, NAMES + "control ^f 1;");
+        Check.bad(2, NAMES + "control 1 ^1;");
+        Check.bad(2, NAMES + "control 1 f ^1;");
+        Check.bad(2, NAMES + "list ^1 f;");
+        Check.bad(2, NAMES + "list f ^;");
+        Check.bad(2, NAMES + "list f 1 ^f;");
+        Check.bad(2, NAMES + "total 1 ^1 c;");
+        Check.bad(2, NAMES + "total 1 c ^;");
+        Check.bad(2, NAMES + "roll 1 c ^;");
+        Check.bad(2, NAMES + "roll 1 c c ^c;");
+        Check.bad(2, NAMES + "clear 1 ^;");
+        Check.bad(2, NAMES + "clear 1 c ^1;");
+        Check.bad(2, NAMES + "punch 1 c ^;");
+        Check.bad(2, NAMES + "punch 1 ^1 1;");
+        Check.bad(2, NAMES + "punch 1 c 1 ^1;");
         for (String word : RESERVED) {
-            bad(2, "field ^" + word + " 1 1;");
-            bad(2, "selector ^" + word + " 1 1;");
-            bad(2, "field f 1 1; counter ^" + word + " 1 f add;");
-            bad(2, NAMES + "list ^" + word + " 1;");
-            bad(2, NAMES + "counter d 1 ^" + word + " add;");
-            bad(2, NAMES + "counter d 1 f add if ^" + word + ";");
-            bad(2, NAMES + "punch 1 ^" + word + " 1;");
+            Check.bad(2, "field ^" + word + " 1 1;");
+            Check.bad(2, "selector ^" + word + " 1 1;");
+            Check.bad(2, "field f 1 1; counter ^" + word + " 1 f add;");
+            Check.bad(2, NAMES + "list ^" + word + " 1;");
+            Check.bad(2, NAMES + "counter d 1 ^" + word + " add;");
+            Check.bad(2, NAMES + "counter d 1 f add if ^" + word + ";");
+            Check.bad(2, NAMES + "punch 1 ^" + word + " 1;");
         }
         for (String word : new String[] {"delayed", "add", "sub", "signed", "if", "unless"}) {
-            bad(2, "^" + word + " f 1 1;");
+            Check.bad(2, "^" + word + " f 1 1;");
         }
     }
 
     private static void numbersOutOfRange() {
-        bad(3, "field f ^0 1;");
-        bad(3, "field f ^21 21;");
-        bad(3, "field f ^99 1;");
-        bad(3, "field f 2 ^1;");
-        bad(3, "field f 20 ^21;");
-        bad(3, "field f 13 ^21;");
-        bad(3, "field f 1 ^10;");
-        bad(3, "field f 11 ^20;");
-        bad(3, "selector s ^0 1;");
-        bad(3, "selector s ^21 1;");
-        bad(3, "selector s 1 ^11;");
-        bad(3, NAMES + "counter d ^0 f add;");
-        bad(3, NAMES + "counter d ^10 f add;");
+        Check.bad(3, "field f ^0 1;");
+        Check.bad(3, "field f ^21 21;");
+        Check.bad(3, "field f ^99 1;");
+        Check.bad(3, "field f 2 ^1;");
+        Check.bad(3, "field f 20 ^21;");
+        Check.bad(3, "field f 13 ^21;");
+        Check.bad(3, "field f 1 ^10;");
+        Check.bad(3, "field f 11 ^20;");
+        Check.bad(3, "selector s ^0 1;");
+        Check.bad(3, "selector s ^21 1;");
+        Check.bad(3, "selector s 1 ^11;");
+        Check.bad(3, NAMES + "counter d ^0 f add;");
+        Check.bad(3, NAMES + "counter d ^10 f add;");
         for (String kind : new String[] {"control", "total", "roll", "clear", "punch"}) {
-            bad(3, NAMES + kind + " ^0 c 1;");
-            bad(3, NAMES + kind + " ^4 c 1;");
+            Check.bad(3, NAMES + kind + " ^0 c 1;");
+            Check.bad(3, NAMES + kind + " ^4 c 1;");
         }
-        bad(3, NAMES + "list f ^0;");
-        bad(3, NAMES + "list f ^41;");
-        bad(3, NAMES + "total 1 c ^0;");
-        bad(3, NAMES + "total 1 c ^41;");
-        bad(3, NAMES + "punch 1 c ^0;");
-        bad(3, NAMES + "punch 1 f ^21;");
+        Check.bad(3, NAMES + "list f ^0;");
+        Check.bad(3, NAMES + "list f ^41;");
+        Check.bad(3, NAMES + "total 1 c ^0;");
+        Check.bad(3, NAMES + "total 1 c ^41;");
+        Check.bad(3, NAMES + "punch 1 c ^0;");
+        Check.bad(3, NAMES + "punch 1 f ^21;");
     }
 
     private static void names() {
         for (String name : new String[] {"f", "s", "c"}) {
-            bad(4, NAMES + "field ^" + name + " 1 1;");
-            bad(4, NAMES + "selector ^" + name + " 1 1;");
-            bad(4, NAMES + "counter ^" + name + " 1 f add;");
+            Check.bad(4, NAMES + "field ^" + name + " 1 1;");
+            Check.bad(4, NAMES + "selector ^" + name + " 1 1;");
+            Check.bad(4, NAMES + "counter ^" + name + " 1 f add;");
         }
         for (String name : new String[] {"s", "c", "g", "ff", "fields"}) {
-            bad(4, NAMES + "control 1 ^" + name + ";");
-            bad(4, NAMES + "list ^" + name + " 1;");
-            bad(4, NAMES + "counter d 1 ^" + name + " add;");
+            Check.bad(4, NAMES + "control 1 ^" + name + ";");
+            Check.bad(4, NAMES + "list ^" + name + " 1;");
+            Check.bad(4, NAMES + "counter d 1 ^" + name + " add;");
         }
         for (String name : new String[] {"f", "c", "d", "g"}) {
-            bad(4, NAMES + "counter d 1 f add if ^" + name + ";");
-            bad(4, NAMES + "counter d 1 f add unless ^" + name + ";");
+            Check.bad(4, NAMES + "counter d 1 f add if ^" + name + ";");
+            Check.bad(4, NAMES + "counter d 1 f add unless ^" + name + ";");
         }
         for (String name : new String[] {"f", "s", "g"}) {
-            bad(4, NAMES + "total 1 ^" + name + " 1;");
-            bad(4, NAMES + "roll 1 ^" + name + " c;");
-            bad(4, NAMES + "roll 1 c ^" + name + ";");
-            bad(4, NAMES + "clear 1 ^" + name + ";");
+            Check.bad(4, NAMES + "total 1 ^" + name + " 1;");
+            Check.bad(4, NAMES + "roll 1 ^" + name + " c;");
+            Check.bad(4, NAMES + "roll 1 c ^" + name + ";");
+            Check.bad(4, NAMES + "clear 1 ^" + name + ";");
         }
-        bad(4, NAMES + "punch 1 ^s 1;");
-        bad(4, NAMES + "punch 1 ^g 1;");
-        bad(4, "counter c 1 ^c add;");
-        bad(4, "list ^f 1; field f 1 1;");
+        Check.bad(4, NAMES + "punch 1 ^s 1;");
+        Check.bad(4, NAMES + "punch 1 ^g 1;");
+        Check.bad(4, "counter c 1 ^c add;");
+        Check.bad(4, "list ^f 1; field f 1 1;");
     }
 
     private static void limits() {
-        String fields = repeated("field # 1 1;", 8);
-        legal(0, fields);
-        bad(5, fields + "^field i 1 1;");
-        bad(5, fields + " ^field 99");
-        String selectors = repeated("selector # 1 1;", 6);
-        legal(0, selectors);
-        bad(5, selectors + "^selector i 1 1;");
-        String counters = "field f 1 1;" + repeated("counter y# 1 f add;", 6);
-        legal(0, counters);
-        bad(5, counters + "^counter i 1 f add;");
-        legal(0, NAMES + repeated("list f 1;", 12));
-        bad(5, NAMES + repeated("list f 1;", 12) + "^list f 1;");
-        legal(0, NAMES + repeated("total 1 c 1;", 12));
-        bad(5, NAMES + repeated("total 1 c 1;", 12) + "^total 1 c 1;");
-        legal(0, NAMES + repeated("roll 1 c c;", 8));
-        bad(5, NAMES + repeated("roll 1 c c;", 8) + "^roll 1 c c;");
-        legal(0, NAMES + repeated("clear 1 c;", 8));
-        bad(5, NAMES + repeated("clear 1 c;", 8) + "^clear 1 c;");
-        legal(0, NAMES + repeated("punch 1 c 1;", 8));
-        bad(5, NAMES + repeated("punch 1 c 1;", 8) + "^punch 1 c 1;");
-        legal(40, repeated("card 1;", 40));
-        bad(5, repeated("card 1;", 40) + "^card 1;");
-        bad(5, repeated("card 1;", 40) + "^card");
+        String fields = Check.repeated("field # 1 1;", 8);
+        Check.legal(0, fields);
+        Check.bad(5, fields + "^field i 1 1;");
+        Check.bad(5, fields + " ^field 99");
+        String selectors = Check.repeated("selector # 1 1;", 6);
+        Check.legal(0, selectors);
+        Check.bad(5, selectors + "^selector i 1 1;");
+        String counters = "field f 1 1;" + Check.repeated("counter y# 1 f add;", 6);
+        Check.legal(0, counters);
+        Check.bad(5, counters + "^counter i 1 f add;");
+        Check.legal(0, NAMES + Check.repeated("list f 1;", 12));
+        Check.bad(5, NAMES + Check.repeated("list f 1;", 12) + "^list f 1;");
+        Check.legal(0, NAMES + Check.repeated("total 1 c 1;", 12));
+        Check.bad(5, NAMES + Check.repeated("total 1 c 1;", 12) + "^total 1 c 1;");
+        Check.legal(0, NAMES + Check.repeated("roll 1 c c;", 8));
+        Check.bad(5, NAMES + Check.repeated("roll 1 c c;", 8) + "^roll 1 c c;");
+        Check.legal(0, NAMES + Check.repeated("clear 1 c;", 8));
+        Check.bad(5, NAMES + Check.repeated("clear 1 c;", 8) + "^clear 1 c;");
+        Check.legal(0, NAMES + Check.repeated("punch 1 c 1;", 8));
+        Check.bad(5, NAMES + Check.repeated("punch 1 c 1;", 8) + "^punch 1 c 1;");
+        Check.legal(40, Check.repeated("card 1;", 40));
+        Check.bad(5, Check.repeated("card 1;", 40) + "^card 1;");
+        Check.bad(5, Check.repeated("card 1;", 40) + "^card");
         for (int level = 1; level <= 3; level++) {
-            bad(5, NAMES + "control " + level + " f; control ^" + level + " f;");
-            bad(5, NAMES + "control " + level + " f; control ^" + level);
+            Check.bad(5, NAMES + "control " + level + " f; control ^" + level + " f;");
+            Check.bad(5, NAMES + "control " + level + " f; control ^" + level);
         }
-        String all = repeated("field # 1 1;", 8) + repeated("selector s# 1 1;", 6) + repeated("counter c# 1 a add;", 6);
-        legal(0, all + "list h 1; total 1 cf 1;");
+        String all = Check.repeated("field # 1 1;", 8) + Check.repeated("selector s# 1 1;", 6) + Check.repeated("counter c# 1 a add;", 6);
+        Check.legal(0, all + "list h 1; total 1 cf 1;");
     }
 
     private static void textsThatEndEarly() {
-        bad(2, "field^");
-        bad(2, "field \n ^");
-        bad(2, "field f^");
-        bad(2, "field f 1 ^");
-        bad(2, "field f 1 1 ^");
-        bad(2, "card^");
-        bad(2, "card ^");
-        bad(2, "card \n^");
-        bad(2, "card 1^");
-        bad(2, "card 01234567890123456789 ^");
-        bad(2, "selector s 1 1 ^");
-        bad(2, "selector s 1 1 delayed^");
-        bad(2, NAMES + "counter d 1 f ^");
-        bad(2, NAMES + "counter d 1 f add ^");
-        bad(2, NAMES + "counter d 1 f add if^");
-        bad(2, NAMES + "counter d 1 f add if s^");
+        Check.bad(2, "field^");
+        Check.bad(2, "field \n ^");
+        Check.bad(2, "field f^");
+        Check.bad(2, "field f 1 ^");
+        Check.bad(2, "field f 1 1 ^");
+        Check.bad(2, "card^");
+        Check.bad(2, "card ^");
+        Check.bad(2, "card \n^");
+        Check.bad(2, "card 1^");
+        Check.bad(2, "card 01234567890123456789 ^");
+        Check.bad(2, "selector s 1 1 ^");
+        Check.bad(2, "selector s 1 1 delayed^");
+        Check.bad(2, NAMES + "counter d 1 f ^");
+        Check.bad(2, NAMES + "counter d 1 f add ^");
+        Check.bad(2, NAMES + "counter d 1 f add if^");
+        Check.bad(2, NAMES + "counter d 1 f add if s^");
     }
 
     private static void smallerKindFirst() {
-        bad(1, repeated("field # 1 1;", 8) + "^fieldfield i 1 1;");
-        bad(2, NAMES + "control 1 f; control ^f f;");
-        bad(3, NAMES + "control 1 f; control ^4 f;");
-        bad(2, NAMES + "list ^if 1;");
-        bad(4, repeated("field # 1 1;", 8) + "selector ^a 1 1;");
-        bad(4, NAMES + "list ^g 1; ?");
-        bad(3, "field f ^0 0;");
+        Check.bad(1, Check.repeated("field # 1 1;", 8) + "^fieldfield i 1 1;");
+        Check.bad(2, NAMES + "control 1 f; control ^f f;");
+        Check.bad(3, NAMES + "control 1 f; control ^4 f;");
+        Check.bad(2, NAMES + "list ^if 1;");
+        Check.bad(4, Check.repeated("field # 1 1;", 8) + "selector ^a 1 1;");
+        Check.bad(4, NAMES + "list ^g 1; ?");
+        Check.bad(3, "field f ^0 0;");
     }
 
     /** Each part of a legal text, cut at each byte, is legal only where a statement ends. */
@@ -432,31 +432,5 @@ public final class TextTest {
         Check.same("5 errorPosition after restore", 8, x.errorPosition());
         Check.load(x, ";");
         Check.same("5 errorPosition at the first byte", 0, x.errorPosition());
-    }
-
-    private static void legal(int cards, String text) {
-        Tabulator x = new Tabulator();
-        Check.same("3 load of " + text, cards, Check.load(x, text));
-        Check.same("4 errorKind of " + text, 0, x.errorKind());
-        Check.same("5 errorPosition of " + text, -1, x.errorPosition());
-    }
-
-    /** A text with a sign ^ before the token at which the error is. */
-    private static void bad(int kind, String marked) {
-        int position = marked.indexOf('^');
-        String text = marked.substring(0, position) + marked.substring(position + 1);
-        Tabulator x = new Tabulator();
-        Check.same("3 load of " + marked, -3, Check.load(x, text));
-        Check.same("4 errorKind of " + marked, kind, x.errorKind());
-        Check.same("5 errorPosition of " + marked, position, x.errorPosition());
-    }
-
-    /** The statement so many times, with a letter more in the alphabet for each sign #. */
-    private static String repeated(String statement, int times) {
-        StringBuilder text = new StringBuilder();
-        for (int i = 0; i < times; i++) {
-            text.append(statement.replace('#', (char) ('a' + i)));
-        }
-        return text.toString();
     }
 }
