@@ -48,6 +48,7 @@ public final class TextLimitsTest {
         bufferIsEmptyBehindABadText();
         emptyText();
         textAtTheEndOfTheBuffer();
+        nothingIsLeftOfTheTextBefore();
         badTextsChangeNothing();
         successResets();
         savedMachinesStay();
@@ -323,6 +324,33 @@ public final class TextLimitsTest {
         Check.same("4 errorKind", 2, cut.errorKind());
         Check.same("5 errorPosition", 1099, cut.errorPosition());
         Check.same("3 load of 1100 bytes with a token at each end", 2, Check.load(new Tabulator(), "card 1;" + " ".repeat(1086) + "card 2;"));
+    }
+
+    /** "Reads a plugboard and a deck": what may be missing in a statement does not come from the text before, legal or not */
+    private static void nothingIsLeftOfTheTextBefore() {
+        String full = "selector s 1 10 delayed;field v 2 3;counter c 1 v sub unless s;control 1 v;control 2 v;control 3 v;list v 1;total 1 c 1;"
+            + "roll 1 c c;clear 1 c;punch 1 v 1;card 99999999999999999999;card jjjjjjjjjjjjjjjjjjjj;";
+        for (String before : new String[] {full, full + "?", full + "card"}) {
+            Tabulator x = new Tabulator();
+            Check.load(x, before);
+            Check.same("3 load", 2, Check.load(x, "selector t 1 10;field w 2 2;counter d 2 w add;card x3;card .4;"));
+            Check.same("7 deck", "x3 .4", Check.deck(x));
+            x.run(1);
+            Check.same("32 not delayed", true, x.isSelected(0));
+            Check.same("30 add, without a selector", 3, x.counter(0));
+            x.run(1);
+            Check.same("32 not delayed", false, x.isSelected(0));
+            Check.same("30 no total cycles", 7, x.counter(0));
+            Check.same("28 no lines", 0, x.finish());
+            Check.same("37 no summary cards", 0, x.summaryCount());
+            Check.same("30 no roll, no clear", 7, x.counter(0));
+            for (int level = 1; level <= 3; level++) {
+                Check.same("24 no control", -1, x.plugControl(level, -1));
+            }
+            Check.throwsIndex("8 one field", () -> x.mean(1));
+            Check.throwsIndex("30 one counter", () -> x.counter(1));
+            Check.throwsIndex("32 one selector", () -> x.isSelected(1));
+        }
     }
 
     /** "BAD_TEXT if the text is not legal (the plugboard, the deck and the machine stay)", for each kind of error */
