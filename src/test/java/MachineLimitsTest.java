@@ -16,6 +16,7 @@ public final class MachineLimitsTest {
         runs();
         finishes();
         answers();
+        allCallsOfAnObject();
         Check.ends("MachineLimitsTest");
     }
 
@@ -667,6 +668,34 @@ public final class MachineLimitsTest {
         Check.same("33 reset", 0, x.groups(1) + x.groups(2) + x.groups(3));
         for (int level : new int[] {Integer.MIN_VALUE, -1, 0, 4, Integer.MAX_VALUE}) {
             Check.throwsArgument("33 groups(" + level + ")", () -> x.groups(level));
+        }
+    }
+
+    // "An object is used for at most 512 calls after it has been made"
+
+    /** The calls up to the last one are answered like the first ones: texts, runs, saved machines, trials. */
+    private static void allCallsOfAnObject() {
+        Tabulator texts = new Tabulator();
+        for (int i = 0; i < 256; i++) {
+            // the first 15 bytes of "card 1 ;card 2;card3" are a legal text, all 20 are none
+            Check.same("2 feed", 20, texts.feed(0x63617264, 0x2031203b, 0x63617264, 0x20323b63, 0x61726433));
+            Check.same("3 load", i % 2 == 0 ? 2 : -3, texts.load(i % 2 == 0 ? 15 : 20));
+        }
+        Tabulator runs = new Tabulator();
+        runs.feed(0x63617264, 0x2031203b, 0x63617264, 0x20323b63, 0x61726433);
+        runs.load(15);
+        for (int i = 0; i < 170; i++) {
+            runs.reset();
+            Check.same("27 run", 2, runs.run(40));
+            Check.same("28 finish", 0, runs.finish());
+        }
+        Tabulator slots = new Tabulator();
+        slots.feed(0x63617264, 0x2031203b, 0x63617264, 0x20323b63, 0x61726433);
+        slots.load(15);
+        for (int i = 0; i < 170; i++) {
+            slots.save(i % 3);
+            Check.same("44 restore", 2, slots.restore(i % 3));
+            Check.same("41 linesDependingOn", 0, slots.linesDependingOn(1));
         }
     }
 }

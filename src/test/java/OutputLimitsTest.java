@@ -220,7 +220,8 @@ public final class OutputLimitsTest {
 
     /** "What is ... punched later in the same place replaces what was there." */
     private static void laterPunchingReplaces() {
-        Tabulator x = Check.machine("field v 1 3;field w 4 4;counter c 2 v sub;punch 1 v 1;punch 1 c 2;punch 1 w 2;punch 2 c 1;punch 2 v 2;punch 3 c 2;punch 3 c 1;card 1.x;");
+        Tabulator x = Check.machine("field v 1 3;field w 4 4;counter c 2 v sub;"
+            + "punch 1 v 1;punch 1 c 2;punch 1 w 2;punch 2 c 1;punch 2 v 2;punch 3 c 2;punch 3 c 1;card 1.x;");
         x.finish();
         // c is -100, of which 00 is kept
         Check.same("38 a digit replaces, and an empty column too", "1.0", Check.summary(x, 0));
